@@ -694,7 +694,10 @@ public final class TextTerms {
     private static final class Meaning {
         static int lengthOfString(Bytes text, int from, int to) {
             int passed = 0;
-            for (int place = from + 1; place < to - 1; place += width(text, place)) {
+            for (int place = from + 1; place < to - 1; place++) {
+                if (text.at(place) == '\\') {
+                    place++;
+                }
                 passed++;
             }
             return passed;
@@ -702,18 +705,18 @@ public final class TextTerms {
 
         static int partOfString(Bytes text, int from, int to, int i) {
             int passed = 0;
-            for (int place = from + 1; place < to - 1; place += width(text, place)) {
+            for (int place = from + 1; place < to - 1; place++) {
+                int c = text.at(place);
+                if (c == '\\') {
+                    place++;
+                    c = Characters.escaped(text.at(place));
+                }
                 if (passed == i) {
-                    int c = text.at(place);
-                    return c == '\\' ? Characters.escaped(text.at(place + 1)) : c;
+                    return c;
                 }
                 passed++;
             }
             return NONE;
-        }
-
-        private static int width(Bytes text, int place) {
-            return text.at(place) == '\\' ? 2 : 1;
         }
 
         static int lengthOfBytes(int from, int to) {
@@ -770,8 +773,10 @@ public final class TextTerms {
             for (int i = 0; i < LINES; i++) {
                 String words = line(i);
                 int begin = 0;
-                while (begin < words.length()) {
-                    int behind = behindWord(words, begin);
+                for (int behind = 0; behind <= words.length(); behind++) {
+                    if (behind < words.length() && words.charAt(behind) != ' ') {
+                        continue;
+                    }
                     if (isSame(words, begin, behind, text, from, to)) {
                         return number;
                     }
@@ -780,14 +785,6 @@ public final class TextTerms {
                 }
             }
             return NONE;
-        }
-
-        private static int behindWord(String words, int begin) {
-            int behind = begin;
-            while (behind < words.length() && words.charAt(behind) != ' ') {
-                behind++;
-            }
-            return behind;
         }
 
         private static boolean isSame(String words, int begin, int behind,
