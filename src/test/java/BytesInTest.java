@@ -20,25 +20,9 @@ public final class BytesInTest {
         Due.same("new: change(0, 1)", x.change(0, 1), -1);
         int[] wrong = {0, 1, -1, 4095, 4096, 16384, Integer.MAX_VALUE, Integer.MIN_VALUE};
         for (int t : wrong) {
-            noTerm("new", x, t);
+            Due.noTerm(x, t);
         }
         Due.same("new: read", x.read(), 0);
-    }
-
-    static void noTerm(String when, TextTerms x, int t) {
-        String what = when + ", term " + t + ": ";
-        Due.same(what + "kind", x.kind(t), -1);
-        Due.same(what + "parent", x.parent(t), -1);
-        Due.same(what + "arguments", x.arguments(t), -1);
-        Due.same(what + "argument", x.argument(t, 0), -1);
-        Due.same(what + "size", x.size(t), -1);
-        Due.same(what + "word", x.word(t), -1);
-        Due.same(what + "begins", x.begins(t), -1);
-        Due.same(what + "ends", x.ends(t), -1);
-        Due.same(what + "mark", x.mark(t, 0), -1);
-        Due.same(what + "length", x.length(t), -1);
-        Due.same(what + "part", x.part(t, 0), -1);
-        Due.holds(what + "not below 0", !x.isNegative(t));
     }
 
     private static void feedOrder() {
@@ -59,28 +43,19 @@ public final class BytesInTest {
         for (int i = 0; i < 819; i++) {
             x.feed(i, 0, 0, 0, 7);
         }
-        Due.holds("16400 bytes are too many", feedThrows(x));
+        Due.holds("16400 bytes are too many", Due.feedThrows(x));
         Due.same("what throws changes nothing", x.end(16380), 16380);
         Due.same("the last byte stays", x.change(16379, 7), 7);
         x.end(16365);
-        Due.holds("16385 bytes are too many", feedThrows(x));
+        Due.holds("16385 bytes are too many", Due.feedThrows(x));
         x.end(16364);
-        Due.holds("16384 bytes are not too many", !feedThrows(x));
+        Due.holds("16384 bytes are not too many", !Due.feedThrows(x));
         Due.same("full", x.end(16384), 16384);
-        Due.holds("full: no more", feedThrows(x));
+        Due.holds("full: no more", Due.feedThrows(x));
         Due.same("full: first byte, first feed", x.change(3, 1), 0);
         Due.same("full: last byte", x.change(16383, 1), 5);
         Due.same("full: behind it", x.change(16384, 1), -1);
         Due.same("full: read", x.read(), 0);
-    }
-
-    private static boolean feedThrows(TextTerms x) {
-        try {
-            x.feed(1, 2, 3, 4, 5);
-            return false;
-        } catch (IllegalStateException e) {
-            return true;
-        }
     }
 
     private static void end() {
@@ -99,24 +74,15 @@ public final class BytesInTest {
 
     private static void endThrows() {
         TextTerms x = new TextTerms();
-        Due.holds("new: end(1) throws", endThrows(x, 1));
-        Due.holds("new: end(-1) throws", endThrows(x, -1));
+        Due.holds("new: end(1) throws", Due.endThrows(x, 1));
+        Due.holds("new: end(-1) throws", Due.endThrows(x, -1));
         x.feed(1, 2, 3, 4, 5);
-        Due.holds("end(21) throws", endThrows(x, 21));
-        Due.holds("end(-1) throws", endThrows(x, -1));
-        Due.holds("end of the largest throws", endThrows(x, Integer.MAX_VALUE));
-        Due.holds("end of the smallest throws", endThrows(x, Integer.MIN_VALUE));
+        Due.holds("end(21) throws", Due.endThrows(x, 21));
+        Due.holds("end(-1) throws", Due.endThrows(x, -1));
+        Due.holds("end of the largest throws", Due.endThrows(x, Integer.MAX_VALUE));
+        Due.holds("end of the smallest throws", Due.endThrows(x, Integer.MIN_VALUE));
         Due.same("nothing was changed", x.end(5), 20);
-        Due.holds("end(6) throws then", endThrows(x, 6));
-    }
-
-    private static boolean endThrows(TextTerms x, int n) {
-        try {
-            x.end(n);
-            return false;
-        } catch (IllegalArgumentException e) {
-            return true;
-        }
+        Due.holds("end(6) throws then", Due.endThrows(x, 6));
     }
 
     private static void change() {
@@ -166,6 +132,6 @@ public final class BytesInTest {
         Due.same("number", x.length(3), 4);
         Due.holds("below 0", x.isNegative(3));
         Due.same("refused now", x.read(), 0);
-        noTerm("behind a refused text", x, 0);
+        Due.noTerm(x, 0);
     }
 }
